@@ -23,6 +23,8 @@ public final class PromiseTests {
         compose();
         at();
         encode();
+        encodeSixPlanes();
+        encodeByStates();
         encodeWithSkippedPlaces();
         byteAt();
         feed();
@@ -193,6 +195,11 @@ public final class PromiseTests {
         due("3 pattern 4 of side 3", "#.#/.../#.#", () -> pattern(x, 4));
         due("3 pattern 6 of side 3", "###/.#./#.#", () -> pattern(x, 6));
         due("3 pattern 8 of side 3", "###/##./###", () -> pattern(x, 8));
+        x.ordered(5);
+        // The least keys: 0 of (0, 0), 1 of (4, 4), 2 of (4, 0), 3 of (0, 4).
+        due("3 pattern 2 of side 5", "#..../...../...../...../....#", () -> pattern(x, 2));
+        due("3 pattern 3 of side 5", "#...#/...../...../...../....#", () -> pattern(x, 3));
+        due("3 pattern 4 of side 5", "#...#/...../...../...../#...#", () -> pattern(x, 4));
         x.grid(2, 1, 0, 0, 256, 0);
         x.grey(1, 0, 9);
         x.ordered(3);
@@ -212,7 +219,9 @@ public final class PromiseTests {
         due("4 light again", true, () -> x.put(63, 7, 7, false));
         due("4 it was light", false, () -> x.put(63, 7, 7, false));
         x.patterns(3, 2, 5);
-        int[][] wrong = {{5, 0, 0}, {-1, 0, 0}, {0, 3, 0}, {0, -1, 0}, {0, 0, 2}, {0, 0, -1}, {DEEP, 0, 0}, {0, FAR, 0}};
+        int[][] wrong = {
+            {5, 0, 0}, {-1, 0, 0}, {0, 3, 0}, {0, -1, 0}, {0, 0, 2}, {0, 0, -1}, {DEEP, 0, 0}, {0, FAR, 0},
+        };
         for (int[] w : wrong) {
             CHECK.index("4 no such cell", () -> x.put(w[0], w[1], w[2], true));
         }
@@ -224,7 +233,9 @@ public final class PromiseTests {
         x.put(1, 2, 0, true);
         x.put(1, 0, 1, true);
         due("5 cells", "..#/#..", () -> pattern(x, 1));
-        int[][] wrong = {{2, 0, 0}, {-1, 0, 0}, {0, 3, 0}, {0, -1, 0}, {0, 0, 2}, {0, 0, -1}, {FAR, 0, 0}, {0, 0, DEEP}};
+        int[][] wrong = {
+            {2, 0, 0}, {-1, 0, 0}, {0, 3, 0}, {0, -1, 0}, {0, 0, 2}, {0, 0, -1}, {FAR, 0, 0}, {0, 0, DEEP},
+        };
         for (int[] w : wrong) {
             CHECK.index("5 no such cell", () -> x.cell(w[0], w[1], w[2]));
         }
@@ -423,6 +434,40 @@ public final class PromiseTests {
         x.grid(8, 1, 0, 0, 256, 0);
         due("15 light ones get pattern 1", 1, x::shade);
         due("15 by number, not by order", "0 0 0 1 0 0 0 0", () -> greys(x));
+        shadeFull();
+        shadeFar();
+    }
+
+    private static void shadeFull() {
+        HalftoneRegions x = sized(8, 8);
+        x.patterns(8, 8, 2);
+        for (int y = 0; y < 8; y++) {
+            x.row(y, 255);
+            for (int u = 0; u < 8; u++) {
+                x.put(1, u, y, true);
+            }
+        }
+        due("15 all 64 are dark", 64, () -> x.count(0, 0));
+        due("15 pattern 1 has 64", 1, x::shade);
+        due("15 its number", 1, () -> x.greyAt(0, 0));
+        x.row(0, 127);
+        due("15 63 is nearest to 64", 0, x::shade);
+    }
+
+    private static void shadeFar() {
+        HalftoneRegions x = sized(8, 1);
+        x.patterns(8, 1, 3);
+        // Dark cells of the patterns: 7, 0, 4.
+        for (int u = 0; u < 7; u++) {
+            x.put(0, u, 0, true);
+            x.put(2, u, 0, u < 4);
+        }
+        int[] greyByCount = {1, 1, 1, 2, 2, 2, 0, 0, 0};
+        for (int dark = 0; dark <= 8; dark++) {
+            x.row(0, (1 << dark) - 1);
+            x.shade();
+            due("15 the grey of count " + dark, greyByCount[dark], () -> x.greyAt(0, 0));
+        }
     }
 
     private static void compose() {
@@ -525,6 +570,49 @@ public final class PromiseTests {
         x.grey(0, 0, 1);
         x.encode();
         due("18 gray code 0, 1: runs 1, 0: 001 00", "32", () -> made(x));
+    }
+
+    private static void encodeSixPlanes() {
+        HalftoneRegions x = sized(8, 8);
+        x.patterns(1, 1, 64);
+        x.grey(0, 0, 42);
+        x.encode();
+        due("18 gray code 111111: seven runs of 0 in 11 bits", "0 0", () -> made(x));
+        due("18 seven runs", 7, () -> x.told(11));
+        x.grey(0, 0, 32);
+        x.encode();
+        due("18 gray code 110000: 000 00 1100", "6 0", () -> made(x));
+        for (int v = 0; v < 64; v++) {
+            int grey = v;
+            x.grey(0, 0, grey);
+            x.encode();
+            x.pass();
+            x.grey(0, 0, 63 - grey);
+            x.decode();
+            due("22 grey " + grey + " again", grey, () -> x.greyAt(0, 0));
+        }
+        HalftoneRegions wide = sized(32, 32);
+        wide.patterns(2, 2, 64);
+        wide.grid(16, 16, 0, 0, 512, 0);
+        wide.grey(14, 15, 1);
+        due("18 runs 1534 and 1", 5, wide::encode);
+        due("18 k is 8 at most: 0 00000001", "255 242 255 0 64", () -> made(wide));
+    }
+
+    private static void encodeByStates() {
+        HalftoneRegions x = sized(8, 8);
+        x.ordered(1);
+        x.grid(1, 4, 0, 0, 256, 0);
+        x.grey(0, 1, 1);
+        x.grey(0, 3, 1);
+        x.encode();
+        // Context 0 goes to -2, to 0, and then foretells 1.
+        due("18 0 foretells 1: runs 1, 2: 001 010", "40", () -> made(x));
+        due("23 0 rises by 1", "0:1*3 4:-2*1", () -> contexts(x));
+        x.grey(0, 3, 0);
+        x.encode();
+        due("18 runs 1, 1, 0: 001 001 00", "36", () -> made(x));
+        due("23 0 falls by 2", "0:-2*3 4:-2*1", () -> contexts(x));
     }
 
     private static void encodeWithSkippedPlaces() {
