@@ -30,6 +30,10 @@ final class Check {
         }
     }
 
+    int looked() {
+        return looked;
+    }
+
     void index(String what, Call call) {
         due(what, "throws.IndexOutOfBoundsException", call);
     }

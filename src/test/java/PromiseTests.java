@@ -44,118 +44,26 @@ public final class PromiseTests {
         CHECK.due(what, want, call);
     }
 
-    private static HalftoneRegions sized(int width, int height) {
-        return new HalftoneRegions(width, height);
-    }
-
-    private static int feedAll(HalftoneRegions x, int... bytes) {
-        for (int b : bytes) {
-            x.feed(b);
-        }
-        return x.decode();
-    }
-
-    private static String made(HalftoneRegions x) {
-        StringBuilder bytes = new StringBuilder();
-        for (int i = 0; i < x.told(8); i++) {
-            bytes.append(i == 0 ? "" : " ").append(x.byteAt(i));
-        }
-        return bytes.toString();
-    }
-
-    private static String greys(HalftoneRegions x) {
-        StringBuilder all = new StringBuilder();
-        for (int j = 0; j < x.told(7); j++) {
-            for (int i = 0; i < x.told(6); i++) {
-                all.append(all.length() == 0 ? "" : " ").append(x.greyAt(i, j));
-            }
-        }
-        return all.toString();
-    }
-
-    private static String region(HalftoneRegions x) {
-        StringBuilder all = new StringBuilder();
-        for (int j = 0; j < x.told(1); j++) {
-            all.append(j == 0 ? "" : "/");
-            for (int i = 0; i < x.told(0); i++) {
-                all.append(x.at(i, j) ? '#' : '.');
-            }
-        }
-        return all.toString();
-    }
-
-    private static String pattern(HalftoneRegions x, int k) {
-        StringBuilder all = new StringBuilder();
-        for (int v = 0; v < x.told(4); v++) {
-            all.append(v == 0 ? "" : "/");
-            for (int u = 0; u < x.told(3); u++) {
-                all.append(x.cell(k, u, v) ? '#' : '.');
-            }
-        }
-        return all.toString();
-    }
-
-    private static String toldAll(HalftoneRegions x) {
-        StringBuilder all = new StringBuilder();
-        for (int what = 0; what <= 11; what++) {
-            all.append(what == 0 ? "" : " ").append(x.told(what));
-        }
-        return all.toString();
-    }
-
-    private static String contexts(HalftoneRegions x) {
-        StringBuilder all = new StringBuilder();
-        for (int c = 0; c < 64; c++) {
-            if (x.context(c, 0) != -1 || x.context(c, 1) != 0) {
-                all.append(c).append(':').append(x.context(c, 0)).append('*').append(x.context(c, 1)).append(' ');
-            }
-        }
-        return all.toString().trim();
-    }
-
-    private static String ways(HalftoneRegions x) {
-        StringBuilder all = new StringBuilder();
-        for (int what = 0; what <= 2; what++) {
-            int was = x.way(what, 0);
-            x.way(what, was);
-            all.append(was);
-        }
-        return all.toString();
-    }
-
-    /** All that can be looked at without a change. */
-    private static String everything(HalftoneRegions x) {
-        StringBuilder all = new StringBuilder(toldAll(x));
-        all.append('|').append(ways(x)).append('|').append(greys(x)).append('|').append(region(x));
-        all.append('|').append(made(x)).append('|').append(contexts(x));
-        for (int k = 0; k < x.told(2); k++) {
-            all.append('|').append(pattern(x, k));
-        }
-        for (int j = 0; j < x.told(7); j++) {
-            for (int i = 0; i < x.told(6); i++) {
-                all.append('|').append(x.where(i, j, 0)).append(' ').append(x.where(i, j, 1));
-                all.append(' ').append(x.outside(i, j)).append(' ').append(x.count(i, j));
-            }
-        }
-        return all.toString();
+    private static Subject sized(int width, int height) {
+        return new Subject(width, height);
     }
 
     private static void newObject() {
-        due("1 sizes", "5 7 1 1 1 0 1 1 0 0 0 0", () -> toldAll(sized(5, 7)));
-        due("1 sizes 1 and 32", "1 32 1 1 1 0 1 1 0 0 0 0", () -> toldAll(sized(1, 32)));
-        due("1 sizes below and above", "1 32 1 1 1 0 1 1 0 0 0 0", () -> toldAll(sized(0, 33)));
-        due("1 sizes far off", "32 1 1 1 1 0 1 1 0 0 0 0", () -> toldAll(sized(FAR, DEEP)));
-        due("1 the region is light", "../..", () -> region(sized(2, 2)));
-        due("1 the pattern is light", ".", () -> pattern(sized(2, 2), 0));
-        due("1 the grey is 0", "0", () -> greys(sized(2, 2)));
-        due("1 the ways are 0", "000", () -> ways(sized(2, 2)));
+        due("1 sizes", "5 7 1 1 1 0 1 1 0 0 0 0", () -> sized(5, 7).toldAll());
+        due("1 sizes 1 and 32", "1 32 1 1 1 0 1 1 0 0 0 0", () -> sized(1, 32).toldAll());
+        due("1 sizes below and above", "1 32 1 1 1 0 1 1 0 0 0 0", () -> sized(0, 33).toldAll());
+        due("1 sizes far off", "32 1 1 1 1 0 1 1 0 0 0 0", () -> sized(FAR, DEEP).toldAll());
+        due("1 the region is light", "../..", () -> sized(2, 2).region());
+        due("1 the pattern is light", ".", () -> sized(2, 2).pattern(0));
+        due("1 the grey is 0", "0", () -> sized(2, 2).greys());
+        due("1 the ways are 0", "000", () -> sized(2, 2).ways());
         due("1 the place's x", 0, () -> sized(2, 2).where(0, 0, 0));
         due("1 the place's y", 0, () -> sized(2, 2).where(0, 0, 1));
-        due("1 no contexts", "", () -> contexts(sized(2, 2)));
+        due("1 no contexts", "", () -> sized(2, 2).contexts());
     }
 
     private static void patterns() {
-        HalftoneRegions x = sized(8, 8);
+        Subject x = sized(8, 8);
         int[] many = {1, 2, 3, 4, 5, 8, 9, 16, 17, 32, 33, 64};
         int[] planes = {0, 1, 2, 2, 3, 3, 4, 4, 5, 5, 6, 6};
         for (int n = 0; n < many.length; n++) {
@@ -166,9 +74,9 @@ public final class PromiseTests {
         x.grey(1, 1, 63);
         x.put(0, 2, 1, true);
         due("2 in place of others", 6, () -> x.patterns(8, 1, 64));
-        due("2 width and height", "8 8 64 8 1 6 2 2 0 0 0 0", () -> toldAll(x));
-        due("2 all are light", "........", () -> pattern(x, 0));
-        due("2 all greys are 0", "0 0 0 0", () -> greys(x));
+        due("2 width and height", "8 8 64 8 1 6 2 2 0 0 0 0", x::toldAll);
+        due("2 all are light", "........", () -> x.pattern(0));
+        due("2 all greys are 0", "0 0 0 0", x::greys);
         int[][] wrong = {{0, 1, 1}, {9, 1, 1}, {1, 0, 1}, {1, 9, 1}, {1, 1, 0}, {1, 1, 65}, {DEEP, 1, 1}, {1, 1, FAR}};
         for (int[] w : wrong) {
             CHECK.argument("2 a wrong number", () -> x.patterns(w[0], w[1], w[2]));
@@ -176,41 +84,41 @@ public final class PromiseTests {
     }
 
     private static void ordered() {
-        HalftoneRegions x = sized(8, 8);
+        Subject x = sized(8, 8);
         for (int side = 1; side <= 7; side++) {
             int asked = side;
             due("3 how many of side " + asked, asked * asked + 1, () -> x.ordered(asked));
-            due("3 the last is dark", "#".repeat(asked), () -> pattern(x, asked * asked).split("/")[asked - 1]);
-            due("3 the first is light", ".".repeat(asked), () -> pattern(x, 0).split("/")[0]);
+            due("3 the last is dark", "#".repeat(asked), () -> x.pattern(asked * asked).split("/")[asked - 1]);
+            due("3 the first is light", ".".repeat(asked), () -> x.pattern(0).split("/")[0]);
         }
         x.ordered(2);
         // Keys of (0,0) (1,1) (1,0) (0,1): 00, 01, 10, 11 as highest bits.
         String[] two = {"../..", "#./..", "#./.#", "##/.#", "##/##"};
         for (int k = 0; k < two.length; k++) {
             int asked = k;
-            due("3 pattern " + k + " of side 2", two[k], () -> pattern(x, asked));
+            due("3 pattern " + k + " of side 2", two[k], () -> x.pattern(asked));
         }
         x.ordered(3);
         // Keys, row by row: 0 32 8 / 48 16 56 / 12 44 4: ranks 0 5 2 / 7 4 8 / 3 6 1.
-        due("3 pattern 4 of side 3", "#.#/.../#.#", () -> pattern(x, 4));
-        due("3 pattern 6 of side 3", "###/.#./#.#", () -> pattern(x, 6));
-        due("3 pattern 8 of side 3", "###/##./###", () -> pattern(x, 8));
+        due("3 pattern 4 of side 3", "#.#/.../#.#", () -> x.pattern(4));
+        due("3 pattern 6 of side 3", "###/.#./#.#", () -> x.pattern(6));
+        due("3 pattern 8 of side 3", "###/##./###", () -> x.pattern(8));
         x.ordered(5);
         // The least keys: 0 of (0, 0), 1 of (4, 4), 2 of (4, 0), 3 of (0, 4).
-        due("3 pattern 2 of side 5", "#..../...../...../...../....#", () -> pattern(x, 2));
-        due("3 pattern 3 of side 5", "#...#/...../...../...../....#", () -> pattern(x, 3));
-        due("3 pattern 4 of side 5", "#...#/...../...../...../#...#", () -> pattern(x, 4));
+        due("3 pattern 2 of side 5", "#..../...../...../...../....#", () -> x.pattern(2));
+        due("3 pattern 3 of side 5", "#...#/...../...../...../....#", () -> x.pattern(3));
+        due("3 pattern 4 of side 5", "#...#/...../...../...../#...#", () -> x.pattern(4));
         x.grid(2, 1, 0, 0, 256, 0);
         x.grey(1, 0, 9);
         x.ordered(3);
-        due("3 all greys are 0", "0 0", () -> greys(x));
+        due("3 all greys are 0", "0 0", x::greys);
         for (int side : new int[] {0, 8, -1, DEEP, FAR}) {
             CHECK.argument("3 side " + side, () -> x.ordered(side));
         }
     }
 
     private static void put() {
-        HalftoneRegions x = sized(8, 8);
+        Subject x = sized(8, 8);
         x.patterns(8, 8, 64);
         due("4 it was other", true, () -> x.put(63, 7, 7, true));
         due("4 it was not", false, () -> x.put(63, 7, 7, true));
@@ -228,11 +136,11 @@ public final class PromiseTests {
     }
 
     private static void cell() {
-        HalftoneRegions x = sized(8, 8);
+        Subject x = sized(8, 8);
         x.patterns(3, 2, 2);
         x.put(1, 2, 0, true);
         x.put(1, 0, 1, true);
-        due("5 cells", "..#/#..", () -> pattern(x, 1));
+        due("5 cells", "..#/#..", () -> x.pattern(1));
         int[][] wrong = {
             {2, 0, 0}, {-1, 0, 0}, {0, 3, 0}, {0, -1, 0}, {0, 0, 2}, {0, 0, -1}, {FAR, 0, 0}, {0, 0, DEEP},
         };
@@ -242,12 +150,12 @@ public final class PromiseTests {
     }
 
     private static void grid() {
-        HalftoneRegions x = sized(4, 4);
+        Subject x = sized(4, 4);
         x.patterns(2, 2, 3);
         due("6 none outside", 0, () -> x.grid(2, 2, 0, 0, 512, 0));
         x.grey(1, 1, 2);
         due("6 two columns and a row outside", 7, () -> x.grid(3, 3, -1024, 0, 512, 0));
-        due("6 all greys are 0", "0 0 0 0 0 0 0 0 0", () -> greys(x));
+        due("6 all greys are 0", "0 0 0 0 0 0 0 0 0", x::greys);
         due("6 all outside", 256, () -> x.grid(16, 16, 65536, 65536, 4096, 4096));
         due("6 the least numbers", 1, () -> x.grid(1, 1, -65536, -65536, -4096, -4096));
         due("6 dx alone", 0, () -> x.grid(1, 1, 0, 0, 1, 0));
@@ -264,7 +172,7 @@ public final class PromiseTests {
     }
 
     private static void where() {
-        HalftoneRegions x = sized(10, 7);
+        Subject x = sized(10, 7);
         x.grid(6, 5, -700, 300, 500, 300);
         due("7 x is rounded down", -3, () -> x.where(0, 0, 0));
         due("7 y", 1, () -> x.where(0, 0, 1));
@@ -288,7 +196,7 @@ public final class PromiseTests {
     }
 
     private static void outside() {
-        HalftoneRegions x = sized(5, 6);
+        Subject x = sized(5, 6);
         x.patterns(3, 2, 1);
         int[][] places = {
             {-3, 0, 1}, {-2, 0, 0}, {4, 0, 0}, {5, 0, 1}, {0, -2, 1}, {0, -1, 0}, {0, 5, 0}, {0, 6, 1}, {-2, -1, 0},
@@ -308,7 +216,7 @@ public final class PromiseTests {
     }
 
     private static void grey() {
-        HalftoneRegions x = sized(8, 8);
+        Subject x = sized(8, 8);
         x.patterns(1, 1, 64);
         x.grid(16, 16, 0, 0, 256, 0);
         due("9 another", true, () -> x.grey(15, 15, 63));
@@ -324,12 +232,12 @@ public final class PromiseTests {
     }
 
     private static void greyAt() {
-        HalftoneRegions x = sized(8, 8);
+        Subject x = sized(8, 8);
         x.patterns(1, 1, 9);
         x.grid(3, 2, 0, 0, 256, 0);
         x.grey(2, 0, 5);
         x.grey(0, 1, 8);
-        due("10 greys", "0 0 5 8 0 0", () -> greys(x));
+        due("10 greys", "0 0 5 8 0 0", x::greys);
         CHECK.index("10 i", () -> x.greyAt(3, 0));
         CHECK.index("10 j", () -> x.greyAt(0, 2));
         CHECK.index("10 below", () -> x.greyAt(-1, 0));
@@ -337,7 +245,7 @@ public final class PromiseTests {
     }
 
     private static void way() {
-        HalftoneRegions x = sized(8, 8);
+        Subject x = sized(8, 8);
         int[] most = {4, 1, 1};
         for (int what = 0; what <= 2; what++) {
             int asked = what;
@@ -350,13 +258,13 @@ public final class PromiseTests {
             CHECK.argument("11 v above", () -> x.way(asked, most[asked] + 1));
             CHECK.argument("11 v below", () -> x.way(asked, -1));
         }
-        due("11 each by itself", "411", () -> ways(x));
+        due("11 each by itself", "411", x::ways);
         CHECK.argument("11 what above", () -> x.way(3, 0));
         CHECK.argument("11 what below", () -> x.way(-1, 0));
     }
 
     private static void row() {
-        HalftoneRegions x = sized(5, 3);
+        Subject x = sized(5, 3);
         due("12 samples were other", 3, () -> x.row(1, 0b10101));
         due("12 bits beyond the width are nothing", 2, () -> x.row(1, -1));
         due("12 they are dark", 5, () -> x.told(10));
@@ -365,7 +273,7 @@ public final class PromiseTests {
         x.patterns(1, 1, 1);
         x.grid(5, 3, 0, 0, 256, 0);
         due("12 bit x is for column x", "0 1 0", () -> x.count(2, 1) + " " + x.count(3, 1) + " " + x.count(3, 0));
-        HalftoneRegions wide = sized(32, 32);
+        Subject wide = sized(32, 32);
         due("12 all 32", 32, () -> wide.row(31, -1));
         due("12 the highest bit", 31, () -> wide.row(31, DEEP));
         CHECK.index("12 y", () -> x.row(3, 0));
@@ -374,7 +282,7 @@ public final class PromiseTests {
     }
 
     private static void page() {
-        HalftoneRegions x = sized(3, 2);
+        Subject x = sized(3, 2);
         x.row(0, 0b111);
         x.patterns(1, 1, 2);
         x.put(1, 0, 0, true);
@@ -387,12 +295,12 @@ public final class PromiseTests {
                 + " " + x.count(0, 1) + " " + x.count(1, 1) + " " + x.count(2, 1));
         due("13 none was other", 0, x::page);
         x.row(0, 0b110);
-        due("13 the region stays", "#../..#", () -> region(x));
+        due("13 the region stays", "#../..#", x::region);
         due("13 again", 3, x::page);
     }
 
     private static void count() {
-        HalftoneRegions x = sized(4, 4);
+        Subject x = sized(4, 4);
         for (int y = 0; y < 4; y++) {
             x.row(y, y == 1 ? 0b0110 : 0b1111);
         }
@@ -413,7 +321,7 @@ public final class PromiseTests {
     }
 
     private static void shade() {
-        HalftoneRegions x = sized(8, 1);
+        Subject x = sized(8, 1);
         x.row(0, 0b11110111);
         x.patterns(4, 1, 4);
         // Dark cells of the patterns: 2, 4, 2, 4.
@@ -427,19 +335,19 @@ public final class PromiseTests {
         x.grey(1, 0, 3);
         x.grey(2, 0, 3);
         due("15 how many were others", 3, x::shade);
-        due("15 3 is as near to 2 as to 4: the lesser; 4: the first; 0: the nearest", "0 1 0", () -> greys(x));
+        due("15 3 is as near to 2 as to 4: the lesser; 4: the first; 0: the nearest", "0 1 0", x::greys);
         due("15 none was other", 0, x::shade);
         x.patterns(1, 1, 2);
         x.put(0, 0, 0, true);
         x.grid(8, 1, 0, 0, 256, 0);
         due("15 light ones get pattern 1", 1, x::shade);
-        due("15 by number, not by order", "0 0 0 1 0 0 0 0", () -> greys(x));
+        due("15 by number, not by order", "0 0 0 1 0 0 0 0", x::greys);
         shadeFull();
         shadeFar();
     }
 
     private static void shadeFull() {
-        HalftoneRegions x = sized(8, 8);
+        Subject x = sized(8, 8);
         x.patterns(8, 8, 2);
         for (int y = 0; y < 8; y++) {
             x.row(y, 255);
@@ -455,7 +363,7 @@ public final class PromiseTests {
     }
 
     private static void shadeFar() {
-        HalftoneRegions x = sized(8, 1);
+        Subject x = sized(8, 1);
         x.patterns(8, 1, 3);
         // Dark cells of the patterns: 7, 0, 4.
         for (int u = 0; u < 7; u++) {
@@ -475,35 +383,35 @@ public final class PromiseTests {
         String[] onLight = {"##..", "....", "##..", ".##.", "#..."};
         String[] onDark = {"####", "#..#", "..##", "#..#", "#..#"};
         for (int operator = 0; operator <= 4; operator++) {
-            HalftoneRegions x = darkThenLight();
+            Subject x = darkThenLight();
             x.way(0, operator);
             due("16 dark samples, operator " + operator, darkOnes(onLight[operator]), x::compose);
-            due("16 on light, operator " + operator, onLight[operator], () -> region(x));
+            due("16 on light, operator " + operator, onLight[operator], x::region);
             x.way(1, 1);
             due("16 dark samples on dark, operator " + operator, darkOnes(onDark[operator]), x::compose);
-            due("16 on dark, operator " + operator, onDark[operator], () -> region(x));
+            due("16 on dark, operator " + operator, onDark[operator], x::region);
             x.grid(1, 1, 65536, 0, 256, 0);
             due("16 what is far outside is not laid, operator " + operator, 4, x::compose);
         }
-        HalftoneRegions x = sized(2, 2);
+        Subject x = sized(2, 2);
         x.ordered(2);
         x.grid(1, 1, -256, -256, 256, 0);
         x.grey(0, 0, 4);
         due("16 cut by the left and the top", 1, x::compose);
-        due("16 the pattern's last cell is seen", "#./..", () -> region(x));
+        due("16 the pattern's last cell is seen", "#./..", x::region);
         x.grid(2, 2, -256, 256, 512, 256);
         x.grey(1, 0, 2);
         due("16 a turned grid", 1, x::compose);
-        due("16 whose place (1, 0) is at 1, 0", ".#/..", () -> region(x));
-        HalftoneRegions heap = sized(5, 2);
+        due("16 whose place (1, 0) is at 1, 0", ".#/..", x::region);
+        Subject heap = sized(5, 2);
         heap.ordered(3);
         heap.way(0, 4);
         heap.grid(2, 2, 0, 0, 256, 256);
         heap.grey(1, 0, 9);
         // Place (1, 0) covers 1, 1 and so does (0, 1), which is laid behind it; (1, 1) covers all from 2 on.
         due("16 row by row", 1, heap::compose);
-        due("16 each row from column 0 on", ".#.../.....", () -> region(heap));
-        HalftoneRegions wide = sized(32, 32);
+        due("16 each row from column 0 on", ".#.../.....", heap::region);
+        Subject wide = sized(32, 32);
         wide.ordered(7);
         wide.grid(1, 1, 31 * 256, 31 * 256, 256, 0);
         wide.grey(0, 0, 49);
@@ -515,8 +423,8 @@ public final class PromiseTests {
         return samples.chars().filter(c -> c == '#').count();
     }
 
-    private static HalftoneRegions darkThenLight() {
-        HalftoneRegions x = sized(4, 1);
+    private static Subject darkThenLight() {
+        Subject x = sized(4, 1);
         x.patterns(2, 1, 2);
         x.put(1, 0, 0, true);
         x.put(1, 1, 0, true);
@@ -526,13 +434,13 @@ public final class PromiseTests {
     }
 
     private static void at() {
-        HalftoneRegions x = sized(3, 2);
+        Subject x = sized(3, 2);
         x.ordered(1);
         x.grid(3, 2, 0, 0, 256, 0);
         x.grey(2, 1, 1);
-        due("17 before it is composed", ".../...", () -> region(x));
+        due("17 before it is composed", ".../...", x::region);
         x.compose();
-        due("17 samples", ".../..#", () -> region(x));
+        due("17 samples", ".../..#", x::region);
         CHECK.index("17 x", () -> x.at(3, 0));
         CHECK.index("17 y", () -> x.at(0, 2));
         CHECK.index("17 x below", () -> x.at(-1, 0));
@@ -540,48 +448,48 @@ public final class PromiseTests {
     }
 
     private static void encode() {
-        HalftoneRegions x = sized(8, 8);
+        Subject x = sized(8, 8);
         due("18 no planes: a run of 0", 1, x::encode);
-        due("18 000", "0", () -> made(x));
+        due("18 000", "0", x::made);
         x.ordered(1);
         x.grid(1, 16, 0, 0, 256, 0);
         x.grey(0, 0, 1);
         due("18 runs 0, 1, 13", 2, x::encode);
-        due("18 000 01 11111101", "15 232", () -> made(x));
+        due("18 000 01 11111101", "15 232", x::made);
         x.grid(16, 16, 0, 0, 256, 0);
         due("18 a run of 256", 4, x::encode);
-        due("18 twelve ones and 13 bits", "255 240 128 0", () -> made(x));
+        due("18 twelve ones and 13 bits", "255 240 128 0", x::made);
         x.grid(16, 1, 0, 0, 256, 0);
         for (int i = 0; i < 16; i++) {
             x.grey(i, 0, 1);
         }
         due("18 runs 0, 0, 0, 13, the last with k 0", 4, x::encode);
-        due("18 000 00 00 and a long run", "1 255 224 13", () -> made(x));
-        due("18 the greys stay", "1 1 1 1 1 1 1 1 1 1 1 1 1 1 1 1", () -> greys(x));
+        due("18 000 00 00 and a long run", "1 255 224 13", x::made);
+        due("18 the greys stay", "1 1 1 1 1 1 1 1 1 1 1 1 1 1 1 1", x::greys);
         x.patterns(1, 1, 4);
         x.grid(1, 1, 0, 0, 256, 0);
         x.grey(0, 0, 3);
         due("18 gray code 1, 0: runs 0, 1", 1, x::encode);
-        due("18 000 01", "8", () -> made(x));
+        due("18 000 01", "8", x::made);
         x.grey(0, 0, 2);
         x.encode();
-        due("18 gray code 1, 1: runs 0, 0, 0: 000 00 00", "0", () -> made(x));
+        due("18 gray code 1, 1: runs 0, 0, 0: 000 00 00", "0", x::made);
         due("18 three runs", 3, () -> x.told(11));
         x.grey(0, 0, 1);
         x.encode();
-        due("18 gray code 0, 1: runs 1, 0: 001 00", "32", () -> made(x));
+        due("18 gray code 0, 1: runs 1, 0: 001 00", "32", x::made);
     }
 
     private static void encodeSixPlanes() {
-        HalftoneRegions x = sized(8, 8);
+        Subject x = sized(8, 8);
         x.patterns(1, 1, 64);
         x.grey(0, 0, 42);
         x.encode();
-        due("18 gray code 111111: seven runs of 0 in 11 bits", "0 0", () -> made(x));
+        due("18 gray code 111111: seven runs of 0 in 11 bits", "0 0", x::made);
         due("18 seven runs", 7, () -> x.told(11));
         x.grey(0, 0, 32);
         x.encode();
-        due("18 gray code 110000: 000 00 1100", "6 0", () -> made(x));
+        due("18 gray code 110000: 000 00 1100", "6 0", x::made);
         for (int v = 0; v < 64; v++) {
             int grey = v;
             x.grey(0, 0, grey);
@@ -591,32 +499,32 @@ public final class PromiseTests {
             x.decode();
             due("22 grey " + grey + " again", grey, () -> x.greyAt(0, 0));
         }
-        HalftoneRegions wide = sized(32, 32);
+        Subject wide = sized(32, 32);
         wide.patterns(2, 2, 64);
         wide.grid(16, 16, 0, 0, 512, 0);
         wide.grey(14, 15, 1);
         due("18 runs 1534 and 1", 5, wide::encode);
-        due("18 k is 8 at most: 0 00000001", "255 242 255 0 64", () -> made(wide));
+        due("18 k is 8 at most: 0 00000001", "255 242 255 0 64", wide::made);
     }
 
     private static void encodeByStates() {
-        HalftoneRegions x = sized(8, 8);
+        Subject x = sized(8, 8);
         x.ordered(1);
         x.grid(1, 4, 0, 0, 256, 0);
         x.grey(0, 1, 1);
         x.grey(0, 3, 1);
         x.encode();
         // Context 0 goes to -2, to 0, and then foretells 1.
-        due("18 0 foretells 1: runs 1, 2: 001 010", "40", () -> made(x));
-        due("23 0 rises by 1", "0:1*3 4:-2*1", () -> contexts(x));
+        due("18 0 foretells 1: runs 1, 2: 001 010", "40", x::made);
+        due("23 0 rises by 1", "0:1*3 4:-2*1", x::contexts);
         x.grey(0, 3, 0);
         x.encode();
-        due("18 runs 1, 1, 0: 001 001 00", "36", () -> made(x));
-        due("23 0 falls by 2", "0:-2*3 4:-2*1", () -> contexts(x));
+        due("18 runs 1, 1, 0: 001 001 00", "36", x::made);
+        due("23 0 falls by 2", "0:-2*3 4:-2*1", x::contexts);
     }
 
     private static void encodeWithSkippedPlaces() {
-        HalftoneRegions x = sized(2, 1);
+        Subject x = sized(2, 1);
         x.ordered(1);
         x.grid(4, 1, -256, 0, 256, 0);
         x.grey(0, 0, 1);
@@ -625,19 +533,19 @@ public final class PromiseTests {
         x.way(2, 1);
         due("18 the two inside are told", 1, x::encode);
         // Bits 1 (context 0: not as foretold), 0 (context 32: as foretold): runs 0, 1.
-        due("18 000 01", "8", () -> made(x));
-        due("18 no context of a skipped place", "0:1*1 32:-2*1", () -> contexts(x));
+        due("18 000 01", "8", x::made);
+        due("18 no context of a skipped place", "0:1*1 32:-2*1", x::contexts);
         x.way(2, 0);
         x.encode();
         due("18 all four are told", 4, () -> x.context(0, 1) + x.context(32, 1) + x.context(48, 1) + x.context(16, 1));
         x.way(2, 1);
         x.grid(2, 1, 65536, 0, 256, 0);
         due("18 none is told", 1, x::encode);
-        due("18 a run of 0", "0", () -> made(x));
+        due("18 a run of 0", "0", x::made);
     }
 
     private static void byteAt() {
-        HalftoneRegions x = sized(8, 8);
+        Subject x = sized(8, 8);
         CHECK.index("19 none is made", () -> x.byteAt(0));
         x.ordered(1);
         x.grid(16, 16, 0, 0, 256, 0);
@@ -656,40 +564,21 @@ public final class PromiseTests {
     }
 
     private static void feed() {
-        HalftoneRegions x = sized(8, 8);
+        Subject x = sized(8, 8);
         due("20 one", 1, () -> x.feed(0));
         due("20 two", 2, () -> x.feed(255));
         CHECK.argument("20 256", () -> x.feed(256));
         CHECK.argument("20 -1", () -> x.feed(-1));
         x.decode();
         due("20 the first again", 1, () -> x.feed(1));
-        HalftoneRegions full = filled();
+        Subject full = Fixtures.came(3000);
         due("20 3000 came", 3000, () -> full.told(9));
         CHECK.unsupported("20 no room", () -> full.feed(0));
         CHECK.argument("20 the first of two", () -> full.feed(256));
     }
 
-    /** An object to which 3000 bytes came: 750 passes of 4 are too many calls, so the bytes made are many first. */
-    private static HalftoneRegions filled() {
-        HalftoneRegions x = sized(32, 32);
-        x.ordered(7);
-        x.grid(16, 16, 0, 0, 512, 0);
-        for (int y = 0; y < 32; y++) {
-            x.row(y, 0x9E3779B9 * (y + 1) ^ 0x7F4A7C15 >>> y);
-        }
-        x.shade();
-        int size = x.encode();
-        while (x.told(9) + size <= 3000) {
-            x.pass();
-        }
-        while (x.told(9) < 3000) {
-            x.feed(0);
-        }
-        return x;
-    }
-
     private static void pass() {
-        HalftoneRegions x = sized(8, 8);
+        Subject x = sized(8, 8);
         due("21 none is made", 0, x::pass);
         x.ordered(1);
         x.grid(16, 16, 0, 0, 256, 0);
@@ -697,148 +586,142 @@ public final class PromiseTests {
         due("21 four", 4, x::pass);
         due("21 four more", 8, x::pass);
         due("21 behind those", 9, () -> x.feed(7));
-        HalftoneRegions full = filled();
+        Subject full = Fixtures.came(3000);
         CHECK.unsupported("21 no room", full::pass);
         due("21 nothing came", 3000, () -> full.told(9));
         full.decode();
-        int size = full.told(8);
-        while (full.told(9) < 3000 - size) {
-            full.feed(0);
+        due("21 a single one", 1, full::pass);
+        Subject rich = Fixtures.rich();
+        for (int n = 1; n <= 24; n++) {
+            due("21 up to 3000", 125 * n, rich::pass);
         }
-        due("21 up to 3000", 3000, full::pass);
-        full.decode();
-        while (full.told(9) < 3001 - size) {
-            full.feed(0);
+        CHECK.unsupported("21 3125 are too many", rich::pass);
+        rich.decode();
+        rich.feed(0);
+        for (int n = 1; n <= 23; n++) {
+            rich.pass();
         }
-        CHECK.unsupported("21 3001 are too many", full::pass);
-        due("21 nothing came then", 3001 - size, () -> full.told(9));
-        HalftoneRegions none = filled();
-        none.decode();
-        none.patterns(1, 1, 1);
-        none.encode();
-        due("21 a single one", 1, none::pass);
+        CHECK.unsupported("21 3001 are too many", rich::pass);
+        due("21 nothing came then", 2876, () -> rich.told(9));
     }
 
     private static void decode() {
-        HalftoneRegions x = sized(8, 8);
-        due("22 no planes", 1, () -> feedAll(x, 0));
+        Subject x = sized(8, 8);
+        due("22 no planes", 1, () -> x.read(0));
         due("22 no bytes then", 0, () -> x.told(9));
         x.ordered(1);
         x.grid(1, 16, 0, 0, 256, 0);
-        due("22 runs 0, 1, 13", 16, () -> feedAll(x, 15, 232));
-        due("22 the greys", "1 0 0 0 0 0 0 0 0 0 0 0 0 0 0 0", () -> greys(x));
+        due("22 runs 0, 1, 13", 16, () -> x.read(15, 232));
+        due("22 the greys", "1 0 0 0 0 0 0 0 0 0 0 0 0 0 0 0", x::greys);
         x.grid(16, 1, 0, 0, 256, 0);
-        due("22 a long run", 16, () -> feedAll(x, 1, 255, 224, 13));
-        due("22 all ones", "1 1 1 1 1 1 1 1 1 1 1 1 1 1 1 1", () -> greys(x));
-        due("22 a long run where a short one would do", 16, () -> feedAll(x, 255, 240, 8, 0));
-        due("22 all zeros", "0 0 0 0 0 0 0 0 0 0 0 0 0 0 0 0", () -> greys(x));
+        due("22 a long run", 16, () -> x.read(1, 255, 224, 13));
+        due("22 all ones", "1 1 1 1 1 1 1 1 1 1 1 1 1 1 1 1", x::greys);
+        due("22 a long run where a short one would do", 16, () -> x.read(255, 240, 8, 0));
+        due("22 all zeros", "0 0 0 0 0 0 0 0 0 0 0 0 0 0 0 0", x::greys);
         x.patterns(1, 1, 4);
         x.grid(1, 1, 0, 0, 256, 0);
         int[][] codes = {{8, 3}, {0, 2}, {32, 1}, {64, 0}};
         for (int[] code : codes) {
-            due("22 one place", 1, () -> feedAll(x, code[0]));
+            due("22 one place", 1, () -> x.read(code[0]));
             due("22 its grey", code[1], () -> x.greyAt(0, 0));
         }
-        HalftoneRegions cut = sized(2, 1);
+        Subject cut = sized(2, 1);
         cut.ordered(1);
         cut.grid(4, 1, -256, 0, 256, 0);
         for (int i = 0; i < 4; i++) {
             cut.grey(i, 0, 1);
         }
         cut.way(2, 1);
-        due("22 how many were not skipped", 2, () -> feedAll(cut, 8));
-        due("22 those skipped are 0", "0 1 0 0", () -> greys(cut));
+        due("22 how many were not skipped", 2, () -> cut.read(8));
+        due("22 those skipped are 0", "0 1 0 0", cut::greys);
         cut.grid(3, 1, 65536, 0, 256, 0);
         cut.grey(1, 0, 1);
-        due("22 all skipped", 0, () -> feedAll(cut, 0));
-        due("22 all are 0", "0 0 0", () -> greys(cut));
+        due("22 all skipped", 0, () -> cut.read(0));
+        due("22 all are 0", "0 0 0", cut::greys);
     }
 
     private static void decodeRefuses() {
-        HalftoneRegions x = sized(8, 8);
+        Subject x = sized(8, 8);
         due("22 no bytes", -2, x::decode);
-        due("22 ones without end", -2, () -> feedAll(x, 255));
+        due("22 ones without end", -2, () -> x.read(255));
         due("22 no whole run", 0, () -> x.told(11));
-        due("22 13 bits that end", -2, () -> feedAll(x, 255, 255, 255));
-        due("22 a run of 1 with no bits", -3, () -> feedAll(x, 0b00100000));
+        due("22 13 bits that end", -2, () -> x.read(255, 255, 255));
+        due("22 a run of 1 with no bits", -3, () -> x.read(0b00100000));
         due("22 it was whole", 1, () -> x.told(11));
         due("22 no bytes then", 0, () -> x.told(9));
-        due("22 a bit 1 behind the end", -4, () -> feedAll(x, 0b00010000));
-        due("22 the last bit 1", -4, () -> feedAll(x, 1));
-        due("22 a byte behind the end", -4, () -> feedAll(x, 0, 0));
+        due("22 a bit 1 behind the end", -4, () -> x.read(0b00010000));
+        due("22 the last bit 1", -4, () -> x.read(1));
+        due("22 a byte behind the end", -4, () -> x.read(0, 0));
         x.patterns(1, 1, 2);
         x.grid(2, 1, 0, 0, 256, 0);
-        due("22 a run of 3 with two bits", -3, () -> feedAll(x, 0b01100000));
-        due("22 a run of 2", 2, () -> feedAll(x, 0b01000000));
+        due("22 a run of 3 with two bits", -3, () -> x.read(0b01100000));
+        due("22 a run of 2", 2, () -> x.read(0b01000000));
         // Run 0, then 2 with one bit left: 000, then k 1: 100.
-        due("22 a run of 2 with one bit left", -3, () -> feedAll(x, 0b00010000));
+        due("22 a run of 2 with one bit left", -3, () -> x.read(0b00010000));
         due("22 both were whole", 2, () -> x.told(11));
         // Runs 1, then at the end: a 5, m 2: k 2.
-        due("22 the last run is 0", 2, () -> feedAll(x, 0b00100000));
-        due("22 the last run is 1", -3, () -> feedAll(x, 0b00100100));
-        due("22 behind that a bit 1", -4, () -> feedAll(x, 0b00100001));
+        due("22 the last run is 0", 2, () -> x.read(0b00100000));
+        due("22 the last run is 1", -3, () -> x.read(0b00100100));
+        due("22 behind that a bit 1", -4, () -> x.read(0b00100001));
         x.patterns(1, 1, 3);
         x.grid(1, 1, 0, 0, 256, 0);
-        due("22 grey 3 of three patterns", -5, () -> feedAll(x, 8));
-        due("22 what is behind the end comes first", -4, () -> feedAll(x, 9));
-        due("22 grey 2 of three patterns", 1, () -> feedAll(x, 0));
+        due("22 grey 3 of three patterns", -5, () -> x.read(8));
+        due("22 what is behind the end comes first", -4, () -> x.read(9));
+        due("22 grey 2 of three patterns", 1, () -> x.read(0));
         // The last run ends with the last bit of a byte: nothing may stand behind it.
         x.patterns(1, 1, 2);
         x.grid(16, 1, 0, 0, 256, 0);
-        due("22 a byte behind a whole byte", -4, () -> feedAll(x, 1, 255, 224, 13, 0));
-        due("22 whole bytes", 16, () -> feedAll(x, 1, 255, 224, 13));
-        due("22 a byte too few", -2, () -> feedAll(x, 1, 255, 224));
+        due("22 a byte behind a whole byte", -4, () -> x.read(1, 255, 224, 13, 0));
+        due("22 whole bytes", 16, () -> x.read(1, 255, 224, 13));
+        due("22 a byte too few", -2, () -> x.read(1, 255, 224));
     }
 
     private static void decodeLeavesGreysWhenRefused() {
         int[][] refused = {{255}, {127}, {0, 0, 0}, {8}};
         int[] want = {-2, -3, -4, -5};
         for (int n = 0; n < refused.length; n++) {
-            HalftoneRegions x = sized(8, 8);
+            Subject x = sized(8, 8);
             x.patterns(1, 1, 3);
             x.grey(0, 0, 1);
             int[] bytes = refused[n];
-            due("22 refused", want[n], () -> feedAll(x, bytes));
-            due("22 the grey stays", "1", () -> greys(x));
+            due("22 refused", want[n], () -> x.read(bytes));
+            due("22 the grey stays", "1", x::greys);
             due("22 no bytes have come then", 0, () -> x.told(9));
         }
     }
 
     private static void context() {
-        HalftoneRegions x = sized(8, 8);
-        x.ordered(1);
-        x.grid(16, 1, 0, 0, 256, 0);
+        Subject x = Fixtures.onePlane(16, 1);
         x.encode();
-        due("23 -8 at least", "0:-8*16", () -> contexts(x));
+        due("23 -8 at least", "0:-8*16", x::contexts);
         for (int i = 0; i < 16; i++) {
             x.grey(i, 0, 1);
         }
-        due("23 until the next one", "0:-8*16", () -> contexts(x));
+        due("23 until the next one", "0:-8*16", x::contexts);
         x.encode();
-        due("23 7 at most", "0:1*1 32:1*1 48:7*14", () -> contexts(x));
-        x.grid(1, 16, 0, 0, 256, 0);
-        x.grey(0, 0, 1);
-        x.encode();
+        due("23 7 at most", "0:1*1 32:1*1 48:7*14", x::contexts);
+        Subject column = Fixtures.onePlane(1, 16);
+        column.grey(0, 0, 1);
+        column.encode();
         // Context 0: 1 (to 1), 0 (to -1), then 13 zeros.
-        due("23 the place above is bit 2", "0:-8*15 4:-2*1", () -> contexts(x));
-        x.grid(3, 2, 0, 0, 256, 0);
-        x.grey(1, 0, 1);
-        x.encode();
-        due("23 before it in the row 32; above it 2, 4, 8", "0:0*2 2:-2*1 4:-2*1 8:-2*1 32:-2*1", () -> contexts(x));
-        x.grid(3, 1, 0, 0, 256, 0);
-        x.grey(0, 0, 1);
-        x.encode();
-        due("23 two before it in the row 16", "0:1*1 16:-2*1 32:-2*1", () -> contexts(x));
-        x.patterns(1, 1, 4);
-        x.grid(1, 1, 0, 0, 256, 0);
-        x.grey(0, 0, 2);
-        x.encode();
-        due("23 the plane above is bit 0, only the last plane counts", "1:1*1", () -> contexts(x));
-        x.pass();
-        x.patterns(1, 1, 1);
-        due("23 it stays", "1:1*1", () -> contexts(x));
-        x.encode();
-        due("23 with no planes", "", () -> contexts(x));
+        due("23 the place above is bit 2", "0:-8*15 4:-2*1", column::contexts);
+        column.grid(3, 2, 0, 0, 256, 0);
+        column.grey(1, 0, 1);
+        column.encode();
+        due("23 before it in the row 32; above it 2, 4, 8", "0:0*2 2:-2*1 4:-2*1 8:-2*1 32:-2*1", column::contexts);
+        column.grid(3, 1, 0, 0, 256, 0);
+        column.grey(0, 0, 1);
+        column.encode();
+        due("23 two before it in the row 16", "0:1*1 16:-2*1 32:-2*1", column::contexts);
+        Subject planes = Fixtures.onePlace(4);
+        planes.grey(0, 0, 2);
+        planes.encode();
+        due("23 the plane above is bit 0, only the last plane counts", "1:1*1", planes::contexts);
+        planes.pass();
+        planes.patterns(1, 1, 1);
+        due("23 it stays", "1:1*1", planes::contexts);
+        planes.encode();
+        due("23 with no planes", "", planes::contexts);
         CHECK.index("23 c", () -> x.context(64, 0));
         CHECK.index("23 c below", () -> x.context(-1, 0));
         CHECK.argument("23 what", () -> x.context(63, 2));
@@ -847,24 +730,21 @@ public final class PromiseTests {
     }
 
     private static void contextWhenRefused() {
-        HalftoneRegions x = sized(8, 8);
-        x.ordered(1);
-        x.grid(2, 1, 0, 0, 256, 0);
-        due("23 the bits end at the second place", -2, () -> feedAll(x, 0b00011111));
-        due("23 the first one was told", "0:1*1", () -> contexts(x));
+        Subject x = Fixtures.onePlane(2, 1);
+        due("23 the bits end at the second place", -2, () -> x.read(0b00011111));
+        due("23 the first one was told", "0:1*1", x::contexts);
         due("23 one whole run", 1, () -> x.told(11));
-        x.patterns(1, 1, 4);
-        x.grid(1, 1, 0, 0, 256, 0);
-        due("23 the bits end when the second plane begins", -2, () -> feedAll(x, 0b00011111));
-        due("23 its contexts are new", "", () -> contexts(x));
-        due("23 a run too long there", -3, () -> feedAll(x, 0b00010000));
-        due("23 none of its bits are told", "", () -> contexts(x));
-        due("23 read, but behind the end", -4, () -> feedAll(x, 0b00001001));
-        due("23 the last plane's", "1:-2*1", () -> contexts(x));
+        Subject planes = Fixtures.onePlace(4);
+        due("23 the bits end when the second plane begins", -2, () -> planes.read(0b00011111));
+        due("23 its contexts are new", "", planes::contexts);
+        due("23 a run too long there", -3, () -> planes.read(0b00010000));
+        due("23 none of its bits are told", "", planes::contexts);
+        due("23 read, but behind the end", -4, () -> planes.read(0b00001001));
+        due("23 the last plane's", "1:-2*1", planes::contexts);
     }
 
     private static void told() {
-        HalftoneRegions x = sized(9, 6);
+        Subject x = sized(9, 6);
         x.patterns(3, 2, 5);
         x.grid(7, 4, 0, 0, 256, 0);
         x.row(0, 0b1011);
@@ -873,7 +753,7 @@ public final class PromiseTests {
         x.feed(1);
         x.feed(2);
         // 84 bits, all as foretold: one run, twelve ones and 13 bits.
-        due("24 all", "9 6 5 3 2 3 7 4 4 2 4 1", () -> toldAll(x));
+        due("24 all", "9 6 5 3 2 3 7 4 4 2 4 1", x::toldAll);
         due("24 12", -1, () -> x.told(12));
         due("24 -1", -1, () -> x.told(-1));
         due("24 far", -1, () -> x.told(FAR));
@@ -881,55 +761,43 @@ public final class PromiseTests {
     }
 
     private static void clear() {
-        HalftoneRegions x = busy();
+        Subject x = busy();
         x.clear();
-        due("25 all is as at first", everything(sized(6, 5)), () -> everything(x));
-        CHECK.index("25 no bytes", () -> x.byteAt(0));
-        due("25 a region that is light", 0, x::compose);
-        due("25 bytes that came before are gone", 1, () -> feedAll(x, 0));
-        x.patterns(1, 1, 64);
-        due("25 patterns are light, greys 0", "0", () -> greys(x));
+        due("25 all is as at first", sized(6, 5).everything(), x::everything);
+        Subject y = busy();
+        y.clear();
+        CHECK.index("25 no bytes", () -> y.byteAt(0));
+        due("25 a region that is light", 0, y::compose);
+        due("25 bytes that came before are gone", 1, () -> y.read(0));
+        y.patterns(1, 1, 64);
+        due("25 patterns are light, greys 0", "0", y::greys);
     }
 
-    /** An object in which nothing is as at first. */
-    private static HalftoneRegions busy() {
-        HalftoneRegions x = sized(6, 5);
-        x.ordered(3);
-        x.put(2, 1, 1, true);
-        x.grid(3, 3, -100, 200, 600, -90);
-        for (int y = 0; y < 5; y++) {
-            x.row(y, 0b101101 * (y + 1));
-        }
-        x.shade();
-        x.way(0, 2);
-        x.way(1, 1);
-        x.way(2, 1);
-        x.compose();
-        x.encode();
-        x.pass();
+    /** An object in which nothing is as at first, and whose bytes that came would be refused. */
+    private static Subject busy() {
+        Subject x = Fixtures.busy();
         x.feed(9);
         return x;
     }
 
     private static void throwingChangesNothing() {
-        HalftoneRegions x = busy();
-        String before = everything(x);
-        Check.Call[] wrong = {
-            () -> x.patterns(2, 2, 65), () -> x.ordered(8), () -> x.put(10, 0, 0, true), () -> x.put(0, 3, 0, true),
-            () -> x.cell(0, 0, 3), () -> x.grid(1, 1, 0, 0, 0, 0), () -> x.grid(1, 1, 0, 0, 1, 4097),
-            () -> x.where(0, 0, 2), () -> x.outside(3, 0), () -> x.grey(0, 0, 10), () -> x.grey(3, 0, 1),
-            () -> x.greyAt(0, 3), () -> x.way(0, 5), () -> x.way(1, 2), () -> x.way(2, -1), () -> x.row(5, 0),
-            () -> x.count(0, 3), () -> x.at(6, 0), () -> x.byteAt(-1), () -> x.feed(256), () -> x.context(0, 2),
+        String before = busy().everything();
+        Sentences.Action[] wrong = {
+            x -> x.patterns(2, 2, 65), x -> x.ordered(8), x -> x.put(5, 0, 0, true), x -> x.put(0, 2, 0, true),
+            x -> x.cell(0, 0, 2), x -> x.grid(1, 1, 0, 0, 0, 0), x -> x.grid(1, 1, 0, 0, 1, 4097),
+            x -> x.where(0, 0, 2), x -> x.outside(3, 0), x -> x.grey(0, 0, 5), x -> x.grey(3, 0, 1),
+            x -> x.greyAt(0, 3), x -> x.way(0, 5), x -> x.way(1, 2), x -> x.way(2, -1), x -> x.row(5, 0),
+            x -> x.count(0, 3), x -> x.at(6, 0), x -> x.byteAt(-1), x -> x.feed(256), x -> x.context(0, 2),
         };
         for (int n = 0; n < wrong.length; n++) {
-            Check.Call call = wrong[n];
-            due("a wrong call throws, " + n, true, () -> Check.answer(call).startsWith("throws."));
-            due("a call that throws changes nothing, " + n, before, () -> everything(x));
+            Sentences.Action call = wrong[n];
+            Subject x = busy();
+            due("a wrong call throws, " + n, true, () -> Check.answer(() -> call.on(x)).startsWith("throws."));
+            due("a call that throws changes nothing, " + n, before, x::everything);
         }
-        HalftoneRegions full = filled();
-        String filled = everything(full);
+        Subject full = Fixtures.came(3000);
         Check.answer(() -> full.feed(1));
         Check.answer(full::pass);
-        due("nor does one for which there is no room", filled, () -> everything(full));
+        due("nor does one for which there is no room", 3000, () -> full.told(9));
     }
 }
