@@ -106,7 +106,8 @@ final class PageSentences {
     private void darkAndLight() {
         Subject x = Fixtures.sized(32, 32);
         s.due("no sample of the page is dark", 0, () -> x.told(10));
-        s.due("nor of the region, corner by corner", false, () -> x.at(0, 0) || x.at(31, 0) || x.at(0, 31) || x.at(31, 31));
+        s.due("nor of the region, corner by corner", false,
+                () -> x.at(0, 0) || x.at(31, 0) || x.at(0, 31) || x.at(31, 31));
         s.due("the page is as the region", 0, x::page);
         s.due("a bit 1 is dark", 1, () -> x.row(31, LEAST));
         s.due("one dark sample", 1, () -> x.told(10));

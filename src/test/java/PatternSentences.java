@@ -232,7 +232,8 @@ final class PatternSentences {
 
     /** A cell of rank r is light up to pattern r, and dark from the next one on. */
     private void rank(Subject x, int u, int v, int r) {
-        s.due("cell " + u + ", " + v + " of " + x.told(3), "false true", () -> x.cell(r, u, v) + " " + x.cell(r + 1, u, v));
+        s.due("cell " + u + ", " + v + " of side " + x.told(3), "false true",
+                () -> x.cell(r, u, v) + " " + x.cell(r + 1, u, v));
     }
 
     private void keys() {

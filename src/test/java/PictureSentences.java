@@ -72,6 +72,7 @@ final class PictureSentences {
         s.due("its dark ones too", "...../.#...", x::region);
         everyPlace();
         lightOnDark();
+        nothingFromOutside();
     }
 
     private void everyPlace() {
@@ -108,7 +109,28 @@ final class PictureSentences {
         wide.way(1, 1);
         wide.grid(1, 1, 256 * 25, 256 * 25, 256, 0);
         s.due("7 by 7 of them are in the region", 1024 - 49, wide::compose);
-        s.due("up to the corner", "false true true", () -> wide.at(31, 31) + " " + wide.at(24, 31) + " " + wide.at(31, 24));
+        s.due("up to the corner", "false true true",
+                () -> wide.at(31, 31) + " " + wide.at(24, 31) + " " + wide.at(31, 24));
+    }
+
+    private void nothingFromOutside() {
+        for (int far : new int[] {-256, -64, -40, -33, -32, -31, -9, -8, 32, 33, 39, 40, 63, 64, 65, 255, 256}) {
+            for (int[] place : new int[][] {{far, 0}, {0, far}, {far, 31}, {31, far}, {far, far}}) {
+                Subject x = Fixtures.sized(32, 32);
+                x.patterns(8, 8, 1);
+                x.way(0, 4);
+                x.way(1, 1);
+                x.grid(1, 1, 256 * place[0], 256 * place[1], 256, 0);
+                s.due("light ones at " + place[0] + ", " + place[1], 1024, x::compose);
+            }
+        }
+        Subject x = Fixtures.sized(32, 32);
+        x.patterns(8, 8, 1);
+        x.way(0, 3);
+        x.grid(16, 16, 65536, 65536, 4096, 4096);
+        s.due("the farthest places", 0, x::compose);
+        x.grid(16, 16, -65536, -65536, -4096, -4096);
+        s.due("the farthest places on the other side", 0, x::compose);
     }
 
     private void operators() {

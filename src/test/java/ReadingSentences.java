@@ -29,7 +29,8 @@ final class ReadingSentences {
         s.promise(22, "or -1 less the number by which it is refused.", this::lessTheNumber);
         s.promise(22, "No bytes have come then.", this::noBytesThen);
         s.promise(23, "Of a context, when the last encode() or decode() ended, refused or not:", this::whenLastEnded);
-        s.promise(23, "its state (what = 0), how many bits of the plane at hand then were told by it (1).", this::whatOf);
+        s.promise(23, "its state (what = 0), how many bits of the plane at hand then were told by it (1).",
+                this::whatOf);
         s.promise(23, "(-1 and 0 before, and with no planes.)", this::beforeAndWithNoPlanes);
         s.promise(23, "IndexOutOfBounds: it is not 0 .. 63, the first of the six bits being the highest one.",
                 this::whichContext);
@@ -45,6 +46,11 @@ final class ReadingSentences {
         s.due("as 32", 32, () -> x.greyAt(0, 0));
         s.due("none is left: the next is one", 1, () -> x.feed(255));
         s.due("bytes made are none of them", 0, () -> x.told(8));
+        Subject each = Fixtures.sized(8, 8);
+        for (int n = 1; n <= 512; n++) {
+            int fed = n;
+            s.due("call " + n + " of 512", n, () -> each.feed(fed % 256));
+        }
         Subject many = Fixtures.came(2998);
         s.due("2999", 2999, () -> many.feed(0));
         s.due("3000", 3000, () -> many.feed(255));

@@ -17,10 +17,6 @@ final class Subject {
         return object;
     }
 
-    int calls() {
-        return calls;
-    }
-
     int patterns(int width, int height, int many) {
         return called().patterns(width, height, many);
     }

@@ -16,8 +16,8 @@ final class ThrowSentences {
     }
 
     private void index() {
-        refused(Sentences.INDEX, "no such sample",
-                x -> x.at(6, 4), x -> x.at(5, 5), x -> x.at(-1, 4), x -> x.at(5, -1), x -> x.row(5, 0), x -> x.row(-1, 0));
+        refused(Sentences.INDEX, "no such sample", x -> x.at(6, 4), x -> x.at(5, 5), x -> x.at(-1, 4),
+                x -> x.at(5, -1), x -> x.row(5, 0), x -> x.row(-1, 0));
         refused(Sentences.INDEX, "no such pattern", x -> x.cell(5, 1, 1), x -> x.cell(-1, 1, 1),
                 x -> x.put(5, 1, 1, true), x -> x.put(-1, 1, 1, true));
         refused(Sentences.INDEX, "no such cell", x -> x.cell(4, 2, 1), x -> x.cell(4, 1, 2), x -> x.cell(4, -1, 1),

@@ -12,7 +12,8 @@ final class WritingSentences {
     }
 
     void test() {
-        s.term("2, 18 and 22", "BYTES. The PLANES are as many as the greatest number of a pattern has bits.", this::planes);
+        s.term("2, 18 and 22", "BYTES. The PLANES are as many as the greatest number of a pattern has bits.",
+                this::planes);
         s.term("18", "They are told from the highest one on,", this::highestPlaneFirst);
         s.term("18", "each row by row,", this::rowByRow);
         s.term("18", "its bit for each place that is not skipped:", this::eachPlaceNotSkipped);
@@ -27,7 +28,8 @@ final class WritingSentences {
                 this::stateAtFirst);
         s.term("18", "1 is foretold if it is not below 0.", this::foretold);
         s.term("18 and 23", "Behind a bit 1 a state below 0 rises by 2, another one by 1, to 7 at most;", this::rises);
-        s.term("18 and 23", "behind a bit 0 a state below 0 falls by 1, another one by 2, to -8 at least.", this::falls);
+        s.term("18 and 23", "behind a bit 0 a state below 0 falls by 1, another one by 2, to -8 at least.",
+                this::falls);
         runTests();
         s.promise(18, "The greys become bytes:", this::greysBecomeBytes);
         s.promise(18, "how many.", this::howManyBytes);
@@ -37,8 +39,8 @@ final class WritingSentences {
     private void runTests() {
         s.term("18", "What is written are RUNS: how many bits in turn were as foretold, before each one that was not,"
                 + " and, at the end of all, behind the last of these (one more than there are such bits).", this::runs);
-        s.term("18 and 22", "A run r comes with a number k: the least from 0 for which m 2^k is not below a, at most 8;",
-                this::leastK);
+        s.term("18 and 22", "A run r comes with a number k: the least from 0 for which m 2^k is not below a, at most"
+                + " 8;", this::leastK);
         s.term("18 and 22", "a being 4 at first and more by each run before, m 1 and more by 1;", this::sums);
         s.term("18 and 22", "behind a run that makes m 32, both are halved, rounded down.", this::halved);
         s.term("18 and 22", "If r by 2^k, rounded down, is less than 12: so many ones, a zero, and the k lowest bits of"
