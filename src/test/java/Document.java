@@ -5,11 +5,16 @@ import java.util.ArrayList;
 import java.util.List;
 import java.util.Map;
 import java.util.TreeMap;
+import java.util.regex.Matcher;
+import java.util.regex.Pattern;
 
-/** The words of the document's Terms and Promises, and which of them a test has named. */
+/** The document: its face, and the words of its Terms and Promises with those of them that a test has named. */
 final class Document {
     private static final Path FILE = Path.of("..", "shared", "DOC.md");
+    private static final Pattern CALL = Pattern.compile("^\\s*`([^`]*)`: ");
 
+    private final List<String> face = new ArrayList<>();
+    private final List<String> calls = new ArrayList<>();
     private final Map<String, String> words = new TreeMap<>();
     private final Map<String, boolean[]> named = new TreeMap<>();
 
@@ -17,11 +22,33 @@ final class Document {
         for (String part : text().split("(?m)^## ")) {
             String heading = part.lines().findFirst().orElse("");
             String section = heading.replaceAll(":.*", "").trim();
-            if (section.equals("Terms") || section.startsWith("Promise ")) {
-                words.put(section, plain(part.substring(heading.length())));
-                named.put(section, new boolean[words.get(section).length()]);
+            String rest = part.substring(heading.length());
+            if (section.equals("The public face")) {
+                rest.lines().map(String::trim).filter(line -> line.endsWith(";"))
+                        .forEach(line -> face.add(line.substring(0, line.length() - 1)));
+            } else if (section.equals("Terms") || section.startsWith("Promise ")) {
+                keep(section, rest);
             }
         }
+    }
+
+    private void keep(String section, String rest) {
+        Matcher call = CALL.matcher(rest);
+        if (call.find()) {
+            calls.add(call.group(1));
+        }
+        words.put(section, plain(rest));
+        named.put(section, new boolean[words.get(section).length()]);
+    }
+
+    /** The lines of the public face, those inside its class, without the semicolon. */
+    List<String> face() {
+        return face;
+    }
+
+    /** The call that each promise begins with, in the order of the promises. */
+    List<String> calls() {
+        return calls;
     }
 
     private static String text() {
@@ -35,7 +62,7 @@ final class Document {
     /** Without the fences round a part of it, and without the line of the face, which FaceTests looks at. */
     private static String plain(String part) {
         String oneLine = part.replace("```text", " ").replace("```", " ").replaceAll("\\s+", " ").trim();
-        return oneLine.replaceAll("^`[^`]*`: ", "");
+        return CALL.matcher(oneLine).replaceFirst("");
     }
 
     int promises() {

@@ -1,48 +1,26 @@
+import java.io.IOException;
 import java.lang.reflect.Constructor;
+import java.lang.reflect.Executable;
 import java.lang.reflect.Field;
 import java.lang.reflect.Method;
 import java.lang.reflect.Modifier;
+import java.nio.file.Files;
+import java.nio.file.Path;
 import java.util.Arrays;
+import java.util.List;
 import java.util.TreeSet;
 
-/** The public face: what the document names, and nothing else that is not private. */
+/** The public face: what the document names, with the exceptions, and nothing else that is not private. */
 public final class FaceTests {
-    private static final String[] FACE = {
-        "NONE int",
-        "new(int,int) ",
-        "patterns(int,int,int) int IllegalArgumentException",
-        "ordered(int) int IllegalArgumentException",
-        "put(int,int,int,boolean) boolean IndexOutOfBoundsException",
-        "cell(int,int,int) boolean IndexOutOfBoundsException",
-        "grid(int,int,int,int,int,int) int IllegalArgumentException",
-        "where(int,int,int) int IndexOutOfBoundsException IllegalArgumentException",
-        "outside(int,int) boolean IndexOutOfBoundsException",
-        "grey(int,int,int) boolean IndexOutOfBoundsException IllegalArgumentException",
-        "greyAt(int,int) int IndexOutOfBoundsException",
-        "way(int,int) int IllegalArgumentException",
-        "row(int,int) int IndexOutOfBoundsException",
-        "page() int",
-        "count(int,int) int IndexOutOfBoundsException",
-        "shade() int",
-        "compose() int",
-        "at(int,int) boolean IndexOutOfBoundsException",
-        "encode() int",
-        "byteAt(int) int IndexOutOfBoundsException",
-        "feed(int) int IllegalArgumentException UnsupportedOperationException",
-        "pass() int UnsupportedOperationException",
-        "decode() int",
-        "context(int,int) int IndexOutOfBoundsException IllegalArgumentException",
-        "told(int) int",
-        "clear() void",
-    };
+    private static final Path SOURCE = Path.of("src", "main", "java", "HalftoneRegions.java");
+    private static final Document DOCUMENT = new Document();
 
     public static void main(String[] args) {
         Check check = new Check("the face");
-        TreeSet<String> want = new TreeSet<>();
-        for (String line : FACE) {
-            want.add(line.trim());
-        }
-        check.due("the members that are not private", want, FaceTests::members);
+        check.due("a constant, a constructor and 24 methods in the document", 26, () -> DOCUMENT.face().size());
+        check.due("the members that are not private", asked(), FaceTests::members);
+        check.due("lines of the face that the source has not, by the letter", List.of(), FaceTests::missingLines);
+        check.due("the promises' calls, behind the constant", DOCUMENT.calls(), FaceTests::callsOfFace);
         check.due("the class is public and final", true, () -> {
             int modifiers = HalftoneRegions.class.getModifiers();
             return Modifier.isPublic(modifiers) && Modifier.isFinal(modifiers);
@@ -52,30 +30,56 @@ public final class FaceTests {
         check.end();
     }
 
+    /** The document's lines without the names of parameters, which reflection does not tell. */
+    private static TreeSet<String> asked() {
+        TreeSet<String> all = new TreeSet<>();
+        for (String line : DOCUMENT.face()) {
+            all.add(line.replaceAll(" = .*", "").replaceAll("(int|boolean) \\w+(?=[,)])", "$1"));
+        }
+        return all;
+    }
+
     private static TreeSet<String> members() {
         TreeSet<String> found = new TreeSet<>();
         for (Field field : HalftoneRegions.class.getDeclaredFields()) {
             if (!Modifier.isPrivate(field.getModifiers())) {
-                found.add(field.getName() + " " + field.getType().getSimpleName());
+                found.add(Modifier.toString(field.getModifiers()) + " " + field.getType() + " " + field.getName());
             }
         }
         for (Constructor<?> made : HalftoneRegions.class.getDeclaredConstructors()) {
-            if (!Modifier.isPrivate(made.getModifiers())) {
-                found.add("new(" + names(made.getParameterTypes(), ",") + ")");
-            }
+            addOpen(found, made, made.getName());
         }
         for (Method method : HalftoneRegions.class.getDeclaredMethods()) {
-            if (!Modifier.isPrivate(method.getModifiers())) {
-                String throwing = names(method.getExceptionTypes(), " ");
-                found.add((method.getName() + "(" + names(method.getParameterTypes(), ",") + ") "
-                        + method.getReturnType().getSimpleName() + " " + throwing).trim());
-            }
+            addOpen(found, method, method.getReturnType() + " " + method.getName());
         }
         return found;
     }
 
-    private static String names(Class<?>[] types, String between) {
-        return String.join(between, Arrays.stream(types).map(Class::getSimpleName).toList());
+    private static void addOpen(TreeSet<String> found, Executable what, String named) {
+        if (!Modifier.isPrivate(what.getModifiers())) {
+            String thrown = names(what.getExceptionTypes());
+            found.add(Modifier.toString(what.getModifiers()) + " " + named + "(" + names(what.getParameterTypes()) + ")"
+                    + (thrown.isEmpty() ? "" : " throws " + thrown));
+        }
+    }
+
+    private static String names(Class<?>[] types) {
+        return String.join(", ", Arrays.stream(types).map(Class::getSimpleName).toList());
+    }
+
+    private static List<String> missingLines() {
+        String source;
+        try {
+            source = Files.readString(SOURCE);
+        } catch (IOException e) {
+            throw new IllegalStateException("there is no " + SOURCE.toAbsolutePath(), e);
+        }
+        return DOCUMENT.face().stream()
+                .filter(line -> !source.contains("\n    " + line + (line.endsWith("-1") ? ";" : " {"))).toList();
+    }
+
+    private static List<String> callsOfFace() {
+        return DOCUMENT.face().stream().skip(1).map(line -> line.replace("public ", "")).toList();
     }
 
     private static TreeSet<String> sharedNames() {
